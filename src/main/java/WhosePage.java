@@ -652,7 +652,6 @@ public final class WhosePage {
 
         void clear() {
             many = 0;
-            place = 0;
         }
 
         /** The place of the first letter with which no FLOOR can go on; NONE without one. */

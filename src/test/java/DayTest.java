@@ -257,6 +257,9 @@ public final class DayTest {
         Check.due("missing(1)", x.missing(1), 1);
         Check.due("ask(0)", x.ask(0), 8);
         Check.due("ask(1)", x.ask(1), 0);
+        Check.due("OWNER 0 is asked, too", Check.floorOf("j12,0;ta00,9;").ask(1), 1);
+        Check.due("all are asked", Check.floorOf("j14,0;th01,0;th21,1;th31,2;").ask(1), 13);
+        Check.due("outMany() at once", Check.floorOf("j12,0;ta00,9;").outMany(), 2);
         for (int owner : new int[] {-1, 4, Integer.MIN_VALUE, Integer.MAX_VALUE}) {
             Check.refused(x, "missing(" + owner + ")", () -> x.missing(owner), -1);
             Check.refused(x, "ask(" + owner + ")", () -> x.ask(owner), -1);
@@ -308,6 +311,9 @@ public final class DayTest {
         boss.machine(4, 9);
         Check.due("AGAIN mixes as little as BOSS", boss.mixed(), 4);
         Check.due("of several the first", boss.byKind(), 4);
+        boss.machine(0, 0);
+        boss.sent(4, 0);
+        Check.due("behind another SENT", boss.byKind(), 0);
     }
 
     private static void send() {
@@ -323,8 +329,13 @@ public final class DayTest {
         Check.refused(x, "send(-1, 0)", () -> x.send(-1, 0), -1);
         Check.refused(x, "send(1, 2)", () -> x.send(1, 2), -2);
         Check.refused(x, "send(1, -1)", () -> x.send(1, -1), -2);
-        WhosePage late = Check.floorOf("j09,59;j19,58;j29,57;j39,57;j09,57;j09,57;");
-        Check.due("mixed() late", late.mixed(), 4);
+        String full = "j09,59;j09,59;j09,59;j09,59;j09,59;";
+        WhosePage last59 = Check.floorOf(full + "j11,7;");
+        Check.due("SENT at 59 it never comes", last59.send(5, 0), 59);
+        Check.due("SENT at 59 it never comes", last59.send(5, 1), 4);
+        WhosePage first59 = Check.floorOf("j11,7;" + full);
+        Check.due("there is no MINUTE 60", first59.send(0, 0), 0);
+        Check.due("there is no MINUTE 60", first59.send(0, 1), 5);
         WhosePage turns = floor(2, 0, "j09,50;j19,50;");
         Check.due("send by turns", turns.send(0, 0), 0);
         Check.due("send by turns", turns.send(0, 1), 1);
@@ -344,6 +355,7 @@ public final class DayTest {
         Check.due("waits(0, 20, 1)", x.waits(0, 20, 1), 1);
         Check.due("waits(0, 99, 30)", x.waits(0, 99, 30), 0);
         Check.due("waits(2, 0, 0)", x.waits(2, 0, 0), -9);
+        Check.due("READY in MINUTE 0", Check.floorOf("j01,0;").waits(0, 0, 0), 0);
         Check.due("waits(2, 99, 30)", x.waits(2, 99, 30), -9);
         Check.refused(x, "waits(4, -1, 31)", () -> x.waits(4, -1, 31), -1);
         Check.refused(x, "waits(-1, 0, 0)", () -> x.waits(-1, 0, 0), -1);
@@ -362,6 +374,7 @@ public final class DayTest {
         Check.due("vain(0, 22, 1)", x.vain(0, 22, 1), 0);
         Check.due("vain(0, 99, 30)", x.vain(0, 99, 30), 0);
         Check.due("vain(3, 0, 1)", x.vain(3, 0, 1), -9);
+        Check.due("READY in MINUTE 0", Check.floorOf("j01,0;").vain(0, 0, 1), 0);
         Check.refused(x, "vain(4, -1, 31)", () -> x.vain(4, -1, 31), -1);
         Check.refused(x, "vain(-1, 0, 1)", () -> x.vain(-1, 0, 1), -1);
         Check.refused(x, "vain(0, -1, 31)", () -> x.vain(0, -1, 31), -4);

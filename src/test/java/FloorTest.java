@@ -7,6 +7,7 @@ public final class FloorTest {
         letters();
         floors();
         grammarFaults();
+        earlierLetters();
         meaningFaults();
         faultsChangeNothing();
         jobs();
@@ -112,6 +113,22 @@ public final class FloorTest {
         grammarFault("mf0;j99,99;x", 11);
         grammarFault("j99,99;m", 8);
         grammarFault("j01,0;" + (char) 255, 6);
+    }
+
+    /** Letters of an earlier text, or of none, are not read behind the end. */
+    private static void earlierLetters() {
+        WhosePage x = Check.floorOf("j01,01;mf0;");
+        for (String whole : new String[] {"j01,01;", "mf0;", "ta00,00;"}) {
+            for (int end = 0; end < whole.length(); end++) {
+                Check.tell(x, whole);
+                Check.due("floor() behind " + whole, Check.tell(x, whole.substring(0, end)), -1000 - end);
+            }
+        }
+        String ahead = "j01,01;".repeat(3) + "mf0;".repeat(14);
+        Check.due("80 letters, a \";\" lacks", Check.tell(new WhosePage(), ahead + "mf0"), -1080);
+        Check.due("79 letters, a digit lacks", Check.tell(new WhosePage(), ahead + "mf"), -1079);
+        Check.due("80 letters, a KIND lacks", Check.tell(new WhosePage(),
+                "j01,01;".repeat(5) + "mf0;".repeat(11) + "m"), -1080);
     }
 
     private static void meaningFault(String letters, int place) {

@@ -195,6 +195,12 @@ public final class RowTest {
             }
         }
         Check.due("SENT stays", x.job(3, 2), 4);
+        WhosePage turned = Check.floorOf("j09,0;j19,0;");
+        int asFirst = turned.lots(1, 5);
+        turned.machine(2, 0);
+        turned.sent(0, 22);
+        Check.due("a FIRST mixes once", asFirst, 1);
+        Check.due("as the MACHINE is now", turned.lots(20, 5) > 20 * asFirst ? 0 : 1, 0);
         Check.due("no JOBS", new WhosePage().lots(20, 5), 0);
         Check.due("two of one", Check.floorOf("j01,0;j01,0;").lots(20, 5), 20);
         Check.refused(x, "lots(0, 0)", () -> x.lots(0, 0), -4);
