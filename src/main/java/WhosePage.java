@@ -905,7 +905,7 @@ public final class WhosePage {
         private int wholeJobs(Plan plan) {
             Arrays.fill(numbersLying, 0);
             for (int i = 0; i < many; i++) {
-                numbersLying[sheets[i] / TEN] |= 1 << sheets[i] % TEN;
+                numbersLying[sheets[i] / TEN] |= 1 << (sheets[i] % TEN);
             }
             int whole = 0;
             for (int job = 0; job < plan.jobs; job++) {
@@ -1105,7 +1105,7 @@ public final class WhosePage {
             int bits = bitsUpTo(sheets);
             for (int i = 0; i < many; i++) {
                 if (numbers[i] / TEN == job) {
-                    bits &= ~(1 << numbers[i] % TEN);
+                    bits &= ~(1 << (numbers[i] % TEN));
                 }
             }
             return bits;
@@ -1140,11 +1140,11 @@ public final class WhosePage {
     }
 
     private static boolean hasBit(int bits, int bit) {
-        return (bits >> bit & 1) == 1;
+        return ((bits >> bit) & 1) == 1;
     }
 
     /** The numbers 1 .. n as bits. */
     private static int bitsUpTo(int n) {
-        return (1 << n + 1) - 2;
+        return (1 << (n + 1)) - 2;
     }
 }
