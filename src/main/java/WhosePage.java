@@ -26,6 +26,7 @@ public final class WhosePage {
     private static final int MOST_TAKERS = 6;
     private static final int MOST_FIGURE = 9;
     private static final int MINUTES = 100;
+    private static final int LAST_MINUTE = MINUTES - 1;
     private static final int SEND_MINUTES = 60;
     private static final int MOST_LETTERS = 80;
     private static final int GREATEST_LETTER = 255;
@@ -189,13 +190,13 @@ public final class WhosePage {
         if (!isZeroOrOne(what)) {
             return refuse(OTHER);
         }
-        day.passWhole(plan);
+        day.passThrough(plan, LAST_MINUTE);
         return what == 0 ? day.sheetOut(k) : day.minuteOut(k);
     }
 
     /** OUT: how many. */
     public int outMany() {
-        day.passWhole(plan);
+        day.passThrough(plan, LAST_MINUTE);
         return day.outs;
     }
 
@@ -219,7 +220,7 @@ public final class WhosePage {
         if (!isZeroOrOne(what)) {
             return refuse(OTHER);
         }
-        day.passWhole(plan);
+        day.passThrough(plan, LAST_MINUTE);
         return day.heldBy(plan, owner, what == 0);
     }
 
@@ -228,7 +229,7 @@ public final class WhosePage {
         if (!plan.hasSheet(sheet)) {
             return refuse(NOBODY);
         }
-        day.passWhole(plan);
+        day.passThrough(plan, LAST_MINUTE);
         return day.holderOf(sheet);
     }
 
@@ -237,7 +238,7 @@ public final class WhosePage {
         if (!isOwner(owner)) {
             return refuse(NOBODY);
         }
-        day.passWhole(plan);
+        day.passThrough(plan, LAST_MINUTE);
         return plan.sheetsOf(owner) - day.heldBy(plan, owner, true);
     }
 
@@ -246,7 +247,7 @@ public final class WhosePage {
         if (!isOwner(owner)) {
             return refuse(NOBODY);
         }
-        day.passWhole(plan);
+        day.passThrough(plan, LAST_MINUTE);
         return day.othersWith(plan, owner);
     }
 
@@ -255,7 +256,8 @@ public final class WhosePage {
         if (!isOwner(owner)) {
             return refuse(NOBODY);
         }
-        return readyMinute(owner);
+        day.passThrough(plan, LAST_MINUTE);
+        return day.lastFirstOut(plan, owner);
     }
 
     /** MIXED. */
@@ -267,11 +269,11 @@ public final class WhosePage {
     public int byKind() {
         draft.copyFrom(plan);
         int best = FIRST;
-        int least = Integer.MAX_VALUE;
+        int least = 0;
         for (int kind = 0; kind < MACHINE_KINDS.length(); kind++) {
             draft.setMachine(kind, plan.stop);
             int mixed = press.mixedIn(draft);
-            if (mixed < least) {
+            if (kind == FIRST || mixed < least) {
                 best = kind;
                 least = mixed;
             }
@@ -289,11 +291,11 @@ public final class WhosePage {
         }
         draft.copyFrom(plan);
         int best = 0;
-        int least = Integer.MAX_VALUE;
+        int least = 0;
         for (int minute = 0; minute < SEND_MINUTES; minute++) {
             draft.jobSent[job] = minute;
             int mixed = press.mixedIn(draft);
-            if (mixed < least) {
+            if (minute == 0 || mixed < least) {
                 best = minute;
                 least = mixed;
             }
@@ -352,7 +354,8 @@ public final class WhosePage {
         if (minute >= MINUTES || way > MOST_STEPS) {
             return refuse(ROOM);
         }
-        int ready = readyMinute(owner);
+        day.passThrough(plan, LAST_MINUTE);
+        int ready = day.lastFirstOut(plan, owner);
         return ready < 0 ? NONE : Math.max(0, ready - minute - way);
     }
 
@@ -367,15 +370,12 @@ public final class WhosePage {
         if (minute >= MINUTES || each > MOST_STEPS) {
             return refuse(ROOM);
         }
-        int ready = readyMinute(owner);
+        day.passThrough(plan, LAST_MINUTE);
+        int ready = day.lastFirstOut(plan, owner);
         if (ready < 0) {
             return NONE;
         }
-        int walks = 0;
-        for (int comesAt = minute; comesAt < ready; comesAt += each) {
-            walks++;
-        }
-        return walks;
+        return minute >= ready ? 0 : (ready - minute - 1) / each + 1;
     }
 
     /** SEEN: behind how many MINUTES the tray looked as the ROW (what 0), the first (1; -9). */
@@ -409,7 +409,7 @@ public final class WhosePage {
 
     /** JUDGED: the first of the ROW that is not as OUT; -9 none. The ROW has none then. */
     public int judge() {
-        day.passWhole(plan);
+        day.passThrough(plan, LAST_MINUTE);
         int answer = NONE;
         for (int i = 0; i < told.many && answer == NONE; i++) {
             if (day.sheetOut(i) != told.numbers[i]) {
@@ -505,11 +505,6 @@ public final class WhosePage {
         }
         plan.copyFrom(draft);
         return statements;
-    }
-
-    private int readyMinute(int owner) {
-        day.passWhole(plan);
-        return day.lastFirstOut(plan, owner);
     }
 
     private boolean areTwoJobs(int one, int other) {
@@ -824,7 +819,11 @@ public final class WhosePage {
 
         /** How many numbers lie between the JOB of the latest SHEET and this one, going round. */
         private int turnsUntil(int job) {
-            return latest == NONE ? job : Math.floorMod(job - latest / TEN - 1, MOST_JOBS);
+            if (latest == NONE) {
+                return job;
+            }
+            int between = job - latest / TEN - 1;
+            return between < 0 ? between + MOST_JOBS : between;
         }
     }
 
@@ -931,10 +930,6 @@ public final class WhosePage {
             outs = 0;
             Arrays.fill(firstOut, NONE);
             Arrays.fill(holders, NONE);
-        }
-
-        void passWhole(Plan plan) {
-            passThrough(plan, MINUTES - 1);
         }
 
         void passThrough(Plan plan, int lastMinute) {
