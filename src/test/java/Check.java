@@ -6,15 +6,29 @@ import java.util.function.IntSupplier;
 final class Check {
     private static int wrong = 0;
     private static int asked = 0;
+    private static String sentence = "";
 
     private Check() {
+    }
+
+    /** The sentence of the document that the answers from here on are about. */
+    static void said(String words) {
+        sentence = "\"" + words + "\": ";
     }
 
     static void due(String call, int got, int want) {
         asked++;
         if (got != want) {
             wrong++;
-            System.out.println(call + " answered " + got + ", due is " + want);
+            System.out.println(sentence + call + " answered " + got + ", due is " + want);
+        }
+    }
+
+    static void holds(String what, boolean holds) {
+        asked++;
+        if (!holds) {
+            wrong++;
+            System.out.println(sentence + "this does not hold: " + what);
         }
     }
 
@@ -63,7 +77,7 @@ final class Check {
         asked++;
         if (!got.equals(List.of(want))) {
             wrong++;
-            System.out.println(what + " was " + got + ", due is " + List.of(want));
+            System.out.println(sentence + what + " was " + got + ", due is " + List.of(want));
         }
     }
 
