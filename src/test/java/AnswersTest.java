@@ -299,6 +299,13 @@ public final class AnswersTest {
         Check.due("JOBS as long", six.three(0, 4, 5), 2);
         Check.said("(the ROW stays)");
         Check.due("count(5)", six.count(5), 6);
+        Check.said("THREE likewise: of the ROW as it is, not of one before");
+        WhosePage anew = withRow("j01,0;j01,0;j09,0;", 1, 2, 3, 4, 5, 6, 7, 8, 9, 1, 1);
+        Check.due("the first ROW", anew.three(0, 1, 2), 2);
+        anew.judge();
+        Check.tellRow(anew, 0, 1);
+        Check.due("a digit 0 then", anew.two(0, 1), 0);
+        Check.due("one too few", anew.three(0, 1, 2), 0);
     }
 
     private static void parts() {
@@ -397,11 +404,14 @@ public final class AnswersTest {
         Check.due("vain(1, 0, 1)", x.vain(1, 0, 1), 99);
         Check.due("vain(1, 98, 1)", x.vain(1, 98, 1), 1);
         Check.due("vain(1, 99, 1)", x.vain(1, 99, 1), 0);
+        Check.due("it is READY as he comes, vain(1, 99, 2)", x.vain(1, 99, 2), 0);
+        Check.due("it is READY as he comes, vain(1, 99, 30)", x.vain(1, 99, 30), 0);
         Check.due("vain(1, 0, 30): 0, 30, 60, 90", x.vain(1, 0, 30), 4);
         Check.due("vain(1, 9, 30): 9, 39, 69, and 99 is READY", x.vain(1, 9, 30), 3);
         Check.due("vain(1, 8, 30): 8, 38, 68, 98", x.vain(1, 8, 30), 4);
         Check.due("vain(1, 10, 30): 10, 40, 70", x.vain(1, 10, 30), 3);
         Check.due("READY in MINUTE 0, vain(2, 0, 1)", x.vain(2, 0, 1), 0);
+        Check.due("READY in MINUTE 0, vain(2, 0, 30)", x.vain(2, 0, 30), 0);
         Check.due("vain(2, 99, 30)", x.vain(2, 99, 30), 0);
         Check.due("never, vain(3, 0, 1)", x.vain(3, 0, 1), -9);
         Check.due("never, vain(3, 99, 30)", x.vain(3, 99, 30), -9);
